@@ -364,6 +364,19 @@ public final class PromisesTest {
         belief(x, 0, 1, 9, 352 / 3);
         x.friend(4, 1);
         belief(x, 4, 4, 0, (7 + 50 + 301) / 3);
+        PayUntold row = new PayUntold();
+        for (int d = 9; d >= 0; d--) {
+            row.worker(d, 9 - d, 0, 0);
+            row.knowing(9 - d, 4, 0);
+        }
+        row.set(4, 0, 904);
+        row.friend(0, 4);
+        row.friend(9, 4);
+        due("belief at desk 9", row.of(0, 7), (0 + 1 + 904) / 3);
+        due("belief at desk 8", row.of(1, 7), 1);
+        due("belief at desk 6", row.of(3, 7), (2 + 3 + 904) / 3);
+        due("belief at desk 5", row.of(4, 7), (3 + 904 + 5) / 3);
+        due("belief at desk 0", row.of(9, 7), (9 + 8 + 904) / 3);
         PayUntold alone = staff(88);
         for (int kind = 0; kind < 7; kind++) {
             belief(alone, 0, kind, 0, 88);
@@ -522,6 +535,15 @@ public final class PromisesTest {
         x.telling(2);
         x.year();
         due("as the years told", x.told(5), 1689);
+        PayUntold full = new PayUntold();
+        for (int d = 9; d >= 0; d--) {
+            full.worker(d, 100 * (9 - d), 0, 0);
+            full.knowing(9 - d, 1, 0);
+        }
+        due("of ten that guess, the one with 0 asks", full.years(1, 0, 0), 4505);
+        due("and then the one beside it too", full.years(2, 0, 0), 4515);
+        due("year()", full.year(), 0);
+        due("and so it was", full.told(5), 4505);
     }
 
     private static void best() {
@@ -780,6 +802,11 @@ public final class PromisesTest {
         shorter.list(11);
         due("beyond the workers", shorter.looked(0), -5);
         due("beyond the workers", shorter.looked(1), 0);
+        shorter.set(0, 0, 9);
+        due("worker 0", shorter.looked(0), 0);
+        due("worker 0", shorter.looked(1), 1);
+        shorter.set(0, 0, 11);
+        due("worker 0", shorter.looked(2), 1);
     }
 
     private static void act(PayUntold x, int w, int act, int at, int want, int... bodies) {

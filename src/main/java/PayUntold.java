@@ -58,7 +58,6 @@ public final class PayUntold {
         imagePapers = new Papers();
         trial = new Office();
         traced = new Trace();
-        imaged = false;
     }
 
     // ---- houses, workers
@@ -419,7 +418,7 @@ public final class PayUntold {
 
         Office() {
             Arrays.fill(workerAt, EMPTY);
-            Arrays.fill(friend, NOBODY);
+            // None is ever null, so that each may be asked without a look.
             for (int w = 0; w < DESKS; w++) {
                 knowing[w] = new Knowing(w, 0);
             }
