@@ -244,6 +244,9 @@ public final class PromisesTest {
         due("offer of another worth", x.of(1, 9), 0);
         x.set(0, 1, 950);
         due("offer above 999", x.of(0, 9), 999);
+        build(x, "ask 1 w=0;ask 2 w=1;ask 1 w=0;ask 1 w=0;ask 1 w=0;ask 1 w=0;ask 1 w=0;ask 1 w=0;ask 1 w=0;ask 1 l=0");
+        due("wish by ten clauses", x.of(0, 10), 9);
+        due("wish by ten clauses", x.of(1, 10), 2);
         build(x, "cut 9 w=5");
         due("offer of the newest house", x.of(1, 9), 2);
     }
