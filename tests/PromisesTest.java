@@ -1,46 +1,5 @@
 /** Each promise by hand: ordinary calls, the edges that the document names, and wrong ones. */
-public final class PromisesTest {
-    private static int wrong = 0;
-    private static String promise = "";
-
-    private static void due(String call, long got, long want) {
-        if (got != want) {
-            wrong++;
-            System.out.println(promise + ": " + call + " answered " + got + ", due is " + want);
-        }
-    }
-
-    private static int write(PayUntold x, String text) {
-        int many = x.count(4);
-        for (int i = 0; i < text.length(); i++) {
-            many = x.feed(text.charAt(i));
-        }
-        return many;
-    }
-
-    private static int build(PayUntold x, String text) {
-        write(x, text);
-        return x.house();
-    }
-
-    /** What house() answers to a text on a new object. */
-    private static void house(String text, int want) {
-        due("house of " + text, build(new PayUntold(), text), want);
-    }
-
-    private static void fault(String text, int place) {
-        house(text, -10 - place);
-    }
-
-    /** An object with some WORKERS at desks 0, 2, 4 .. with the PAY told, WORTH as PAY, LOTS 0, 1, 0 .. */
-    private static PayUntold staff(int... pay) {
-        PayUntold x = new PayUntold();
-        for (int w = 0; w < pay.length; w++) {
-            x.worker(w < 5 ? 2 * w : 2 * (w - 5) + 1, pay[w], pay[w], w % 2);
-        }
-        return x;
-    }
-
+public final class PromisesTest extends Checks {
     public static void main(String[] args) {
         newObject();
         feed();
@@ -76,14 +35,11 @@ public final class PromisesTest {
         imageAndUndo();
         count();
         extremes();
-        System.out.println(wrong == 0 ? "all promises hold" : wrong + " answers are not as due");
-        if (wrong != 0) {
-            System.exit(1);
-        }
+        end();
     }
 
     private static void newObject() {
-        promise = "promise 1";
+        by("promise 1");
         PayUntold x = new PayUntold();
         for (int what = 0; what < 6; what++) {
             due("count(" + what + ")", x.count(what), 0);
@@ -100,7 +56,7 @@ public final class PromisesTest {
     }
 
     private static void feed() {
-        promise = "promise 2";
+        by("promise 2");
         PayUntold x = new PayUntold();
         due("feed(-1)", x.feed(-1), PayUntold.BAD);
         due("feed(128)", x.feed(128), PayUntold.BAD);
@@ -117,7 +73,7 @@ public final class PromisesTest {
     }
 
     private static void houseNumbers() {
-        promise = "promise 3";
+        by("promise 3");
         PayUntold x = new PayUntold();
         due("1st", build(x, "leave 1"), 0);
         due("2nd", build(x, "leave 2"), 1);
@@ -137,7 +93,7 @@ public final class PromisesTest {
     }
 
     private static void houseFaults() {
-        promise = "promise 3";
+        by("promise 3");
         fault("", 0);
         fault(";", 0);
         fault("offr 1 w=1", 3);
@@ -201,7 +157,7 @@ public final class PromisesTest {
     }
 
     private static void houseMeanings() {
-        promise = "promise 3";
+        by("promise 3");
         wish("w=1", "010000");
         wish("w<2", "110000");
         wish("w>3", "000011");
@@ -252,7 +208,7 @@ public final class PromisesTest {
     }
 
     private static void told() {
-        promise = "promise 4";
+        by("promise 4");
         PayUntold x = staff(100, 50, 201, 60);
         build(x, "leave 30;rise 9;leave 12");
         x.telling(2);
@@ -272,7 +228,7 @@ public final class PromisesTest {
     }
 
     private static void worker() {
-        promise = "promise 5";
+        by("promise 5");
         PayUntold x = new PayUntold();
         due("worker", x.worker(9, 0, 999, 1), 0);
         due("of desk", x.of(0, 0), 9);
@@ -302,7 +258,7 @@ public final class PromisesTest {
     }
 
     private static void knowing() {
-        promise = "promise 6";
+        by("promise 6");
         PayUntold x = staff(1, 2);
         for (int kind = 0; kind < 7; kind++) {
             due("knowing", x.knowing(1, kind, 9 - kind), Math.max(0, kind - 1));
@@ -320,7 +276,7 @@ public final class PromisesTest {
     }
 
     private static void friend() {
-        promise = "promise 7";
+        by("promise 7");
         PayUntold x = staff(1, 2, 3);
         due("friend", x.friend(0, 1), -5);
         due("friend", x.friend(0, 2), 1);
@@ -342,7 +298,7 @@ public final class PromisesTest {
     }
 
     private static void beliefs() {
-        promise = "promise 8, BELIEF";
+        by("promise 8, BELIEF");
         PayUntold x = new PayUntold();
         x.worker(5, 100, 0, 0);
         x.worker(9, 301, 0, 0);
@@ -387,7 +343,7 @@ public final class PromisesTest {
     }
 
     private static void tellings() {
-        promise = "promise 8, TELLING";
+        by("promise 8, TELLING");
         PayUntold x = staff(10, 21, 50, 200, 400);
         int middle = 205;
         int mean = 681 / 5;
@@ -408,7 +364,7 @@ public final class PromisesTest {
     }
 
     private static void ofWorker() {
-        promise = "promise 8";
+        by("promise 8");
         PayUntold x = staff(100, 200, 300);
         due("of(3, 0)", x.of(3, 0), -10001);
         due("of(-1, 0)", x.of(-1, 0), -10001);
@@ -437,7 +393,7 @@ public final class PromisesTest {
     }
 
     private static void set() {
-        promise = "promise 9";
+        by("promise 9");
         PayUntold x = staff(5, 6);
         due("pay", x.set(1, 0, 999), 6);
         due("pay", x.set(1, 0, 0), 999);
@@ -454,7 +410,7 @@ public final class PromisesTest {
     }
 
     private static void telling() {
-        promise = "promise 10";
+        by("promise 10");
         PayUntold x = new PayUntold();
         due("telling", x.telling(3), 0);
         due("telling", x.telling(1), 3);
@@ -464,7 +420,7 @@ public final class PromisesTest {
     }
 
     private static void year() {
-        promise = "promise 11";
+        by("promise 11");
         PayUntold x = new PayUntold();
         x.worker(0, 100, 103, 0);
         x.worker(1, 100, 90, 0);
@@ -492,7 +448,7 @@ public final class PromisesTest {
     }
 
     private static void yearGuards() {
-        promise = "promise 11";
+        by("promise 11");
         PayUntold x = staff(100, 130);
         x.knowing(0, 2, 0);
         x.set(0, 1, 500);
@@ -511,7 +467,7 @@ public final class PromisesTest {
     }
 
     private static void years() {
-        promise = "promise 12";
+        by("promise 12");
         PayUntold x = staff(100, 200, 300, 40);
         x.set(0, 1, 999);
         x.set(3, 1, 190);
@@ -550,7 +506,7 @@ public final class PromisesTest {
     }
 
     private static void best() {
-        promise = "promise 13";
+        by("promise 13");
         PayUntold x = staff(100, 200, 300, 40);
         due("best(0): all alike", x.best(0), 0);
         x.set(1, 1, 350);
@@ -581,7 +537,7 @@ public final class PromisesTest {
     }
 
     private static void even() {
-        promise = "promise 14";
+        by("promise 14");
         PayUntold x = staff(100, 50, 201, 60, 0);
         due("gap", x.told(4), 100 - 55);
         due("even(0)", x.even(0), 90);
@@ -599,7 +555,7 @@ public final class PromisesTest {
     }
 
     private static void spread() {
-        promise = "promise 15";
+        by("promise 15");
         PayUntold x = staff(100, 150, 10);
         x.set(2, 1, 199);
         x.set(1, 1, 1);
@@ -615,7 +571,7 @@ public final class PromisesTest {
     }
 
     private static void bargain() {
-        promise = "promise 16";
+        by("promise 16");
         PayUntold x = staff(100, 131);
         x.knowing(0, 2, 3);
         due("belief", x.of(0, 7), 115);
@@ -651,14 +607,14 @@ public final class PromisesTest {
     }
 
     private static void dieAndSlip() {
-        promise = "promise 17";
+        by("promise 17");
         PayUntold x = new PayUntold();
         due("die", x.die(9999), 0);
         due("die", x.die(0), 9999);
         due("die 10000", x.die(10000), PayUntold.BAD);
         due("die -1", x.die(-1), PayUntold.BAD);
         due("die", x.die(9900), 0);
-        promise = "promise 18";
+        by("promise 18");
         due("slip(-1) of nobody", x.slip(-1), 0);
         due("slip(0) of nobody", x.slip(0), PayUntold.NONE);
         x.worker(8, 70, 0, 0);
@@ -675,7 +631,7 @@ public final class PromisesTest {
     }
 
     private static void known() {
-        promise = "promise 19";
+        by("promise 19");
         PayUntold x = new PayUntold();
         int[] desks = {4, 0, 9, 6, 2};
         for (int w = 0; w < 5; w++) {
@@ -703,7 +659,7 @@ public final class PromisesTest {
     }
 
     private static void adverts() {
-        promise = "promise 20";
+        by("promise 20");
         PayUntold x = staff(7, 8);
         due("advert", x.advert(0, 0, 999), 1);
         due("advert", x.advert(1, 5, 5), 2);
@@ -718,7 +674,7 @@ public final class PromisesTest {
         due("13th", x.advert(0, 0, 900), PayUntold.FULL);
         due("13th, wrong too", x.advert(0, 2, 1), PayUntold.BAD);
         due("count", x.count(2), 12);
-        promise = "promise 21";
+        by("promise 21");
         due("clear()", x.clear(), 12);
         due("clear()", x.clear(), 0);
         due("count", x.count(2), 0);
@@ -727,7 +683,7 @@ public final class PromisesTest {
     }
 
     private static void span() {
-        promise = "promise 22";
+        by("promise 22");
         PayUntold x = staff(7, 8);
         due("without", x.span(0, 0), 0);
         due("without", x.span(0, 1), 999);
@@ -750,7 +706,7 @@ public final class PromisesTest {
     }
 
     private static void can() {
-        promise = "promise 23";
+        by("promise 23");
         PayUntold x = staff(7, 8, 9);
         due("without rows", x.can(0), 0);
         due("without rows", x.can(1), 999);
@@ -767,7 +723,7 @@ public final class PromisesTest {
     }
 
     private static void list() {
-        promise = "promise 24";
+        by("promise 24");
         PayUntold x = new PayUntold();
         due("-1", x.list(-1), 0);
         due("-2", x.list(-2), PayUntold.BAD);
@@ -784,7 +740,7 @@ public final class PromisesTest {
     }
 
     private static void looked() {
-        promise = "promise 25";
+        by("promise 25");
         PayUntold x = staff(10, 20, 30, 40);
         due("without a list", x.looked(0), -5);
         due("without a list", x.looked(1), 0);
@@ -822,7 +778,7 @@ public final class PromisesTest {
     }
 
     private static void acts() {
-        promise = "promise 26";
+        by("promise 26");
         PayUntold x = staff(0, 0, 0, 0, 0, 0, 0);
         for (int w = 0; w < 7; w++) {
             x.knowing(w, w, w + 2);
@@ -860,7 +816,7 @@ public final class PromisesTest {
     }
 
     private static void trace() {
-        promise = "promise 27";
+        by("promise 27");
         PayUntold x = staff(0);
         x.act(0, 2, 1);
         due("trace(0)", x.trace(0), 3);
@@ -878,7 +834,7 @@ public final class PromisesTest {
     }
 
     private static void as() {
-        promise = "promise 28";
+        by("promise 28");
         PayUntold x = staff(0);
         int[] above = {0, 0, 0, 0, 1, 2, 3};
         for (int kind = 0; kind < 7; kind++) {
@@ -905,11 +861,11 @@ public final class PromisesTest {
         x.list(10);
         x.list(25);
         write(x, "rise ");
-        promise = "promise 30";
+        by("promise 30");
         due("undo()", x.undo(), PayUntold.STATE);
-        promise = "promise 29";
+        by("promise 29");
         due("image()", x.image(), 2);
-        promise = "promise 30";
+        by("promise 30");
         for (int turn = 0; turn < 2; turn++) {
             changeAll(x);
             due("undo()", x.undo(), 2);
@@ -966,7 +922,7 @@ public final class PromisesTest {
     }
 
     private static void count() {
-        promise = "promise 31";
+        by("promise 31");
         PayUntold x = staff(1, 2, 3);
         build(x, "rise 1");
         write(x, "abcd");
@@ -986,7 +942,7 @@ public final class PromisesTest {
 
     /** Numbers far off in every place: each call answers, and changes nothing. */
     private static void extremes() {
-        promise = "refusals";
+        by("refusals");
         int[] far = {Integer.MIN_VALUE, Integer.MAX_VALUE};
         for (int n : far) {
             PayUntold x = staff(1, 2);
