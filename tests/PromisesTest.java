@@ -34,7 +34,6 @@ public final class PromisesTest extends Checks {
         as();
         imageAndUndo();
         count();
-        extremes();
         end();
     }
 
@@ -938,51 +937,5 @@ public final class PromisesTest extends Checks {
         due("count(5)", x.count(5), 2);
         due("count(6)", x.count(6), PayUntold.NONE);
         due("count(-1)", x.count(-1), PayUntold.NONE);
-    }
-
-    /** Numbers far off in every place: each call answers, and changes nothing. */
-    private static void extremes() {
-        by("refusals");
-        int[] far = {Integer.MIN_VALUE, Integer.MAX_VALUE};
-        for (int n : far) {
-            PayUntold x = staff(1, 2);
-            due("feed", x.feed(n), PayUntold.BAD);
-            due("told", x.told(n), -10001);
-            due("worker", x.worker(n, 1, 1, 1), PayUntold.NONE);
-            due("worker", x.worker(1, n, 1, 1), PayUntold.BAD);
-            due("worker", x.worker(1, 1, n, 1), PayUntold.BAD);
-            due("worker", x.worker(1, 1, 1, n), PayUntold.NONE);
-            due("knowing", x.knowing(n, 1, 1), PayUntold.NONE);
-            due("knowing", x.knowing(0, n, 1), PayUntold.NONE);
-            due("knowing", x.knowing(0, 1, n), PayUntold.BAD);
-            due("friend", x.friend(n, n), PayUntold.NONE);
-            due("friend", x.friend(0, n), PayUntold.NONE);
-            due("of", x.of(n, n), -10001);
-            due("set", x.set(n, 0, 0), PayUntold.NONE);
-            due("set", x.set(0, n, 0), PayUntold.NONE);
-            due("set", x.set(0, 0, n), PayUntold.BAD);
-            due("telling", x.telling(n), PayUntold.NONE);
-            due("years", x.years(n, 0, 0), -10002);
-            due("years", x.years(n, n, 0), -10001);
-            due("best", x.best(n), PayUntold.BAD);
-            due("even", x.even(n), PayUntold.BAD);
-            due("spread", x.spread(0, n), PayUntold.BAD);
-            due("bargain", x.bargain(0, n, 0), PayUntold.NONE);
-            due("bargain", x.bargain(0, 0, n), PayUntold.BAD);
-            due("die", x.die(n), PayUntold.BAD);
-            due("slip", x.slip(n), PayUntold.NONE);
-            due("known", x.known(n), PayUntold.BAD);
-            due("advert", x.advert(0, n, n), PayUntold.BAD);
-            due("span", x.span(n, n), PayUntold.NONE);
-            due("can", x.can(n), PayUntold.NONE);
-            due("list", x.list(n), PayUntold.BAD);
-            due("looked", x.looked(n), PayUntold.NONE);
-            due("act", x.act(n, n, n), 0);
-            due("trace", x.trace(n), PayUntold.NONE);
-            due("as", x.as(n, n), PayUntold.NONE);
-            due("count", x.count(n), PayUntold.NONE);
-            due("all pay", x.told(5), 3);
-            due("workers", x.count(0), 2);
-        }
     }
 }

@@ -28,6 +28,7 @@ public final class WorkerEdgesTest extends Checks {
         asksElse();
         whatOfAWorker();
         whatIsTold();
+        calledFiveHundredTwelveTimes();
         end();
     }
 
@@ -531,5 +532,20 @@ public final class WorkerEdgesTest extends Checks {
         PayUntold ten = staff(999, 999, 999, 999, 999, 999, 999, 999, 999, 999);
         due("all pay of ten", ten.told(5), 9990);
         due("gap of ten", ten.told(4), 0);
+    }
+
+    private static void calledFiveHundredTwelveTimes() {
+        by("An object is used for at most 512 calls");
+        PayUntold x = new PayUntold();
+        for (int call = 1; call <= 511; call++) {
+            due("fault in call " + call, x.house(), -10);
+        }
+        due("call 512", x.worker(9, 1, 1, 1), 0);
+        PayUntold y = staffOf(1, 10, 20, 30, 40, 50, 60, 70, 80, 90, 100);
+        int best = y.best(20);
+        for (int call = 22; call <= 511; call++) {
+            due("best in call " + call, y.best(20), best);
+        }
+        due("call 512", y.told(5), 550);
     }
 }

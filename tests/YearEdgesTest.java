@@ -14,6 +14,8 @@ public final class YearEdgesTest extends Checks {
         yearsOfTwenty();
         yearsByATelling();
         yearsLeftTogether();
+        yearsByGuess();
+        yearsWithoutItsFriend();
         yearsBeyondTheLast();
         refusalsOfYears();
         bestOfSeveral();
@@ -286,6 +288,37 @@ public final class YearEdgesTest extends Checks {
         due("from now on twice more", x.years(20, 0, 1), 2);
     }
 
+    private static void yearsByGuess() {
+        by("YEARS of n: as if n YEARS went, by those BESIDE each");
+        PayUntold x = staffOf(1, 100, 90, 80);
+        due("one year", x.years(1, 0, 0), 100 + 90 + 85);
+        due("two years", x.years(2, 0, 0), 100 + 95 + 90);
+        due("gap behind two years", x.years(2, 0, 2), 95 - 95);
+        PayUntold turned = new PayUntold();
+        int[] desks = {9, 0, 4};
+        for (int w = 0; w < 3; w++) {
+            turned.worker(desks[w], 100 - 20 * w, 0, 0);
+            turned.knowing(w, 1, 0);
+        }
+        due("in the row 80, 60, 100: the middle one alone asks", turned.years(1, 0, 0), 245);
+        due("now nothing has moved", turned.told(5), 240);
+    }
+
+    private static void yearsWithoutItsFriend() {
+        by("YEARS of n: one that LEAVES has no FRIEND then");
+        PayUntold x = staff(100, 120, 100, 400);
+        x.set(0, 1, 150);
+        x.knowing(0, 4, 0);
+        x.friend(0, 3);
+        due("it leaves, as its friend has 400", x.years(1, 0, 0), 770);
+        due("without that friend it is glad", x.years(2, 0, 0), 770);
+        due("and so on", x.years(20, 0, 0), 770);
+        due("now it has its friend still", x.of(0, 4), 3);
+        x.year();
+        x.friend(0, 3);
+        due("with a friend anew it asks", x.years(1, 0, 0), 775);
+    }
+
     private static void yearsBeyondTheLast() {
         by("n YEARS from now on (also beyond YEAR 99)");
         PayUntold x = staff(100);
@@ -463,6 +496,17 @@ public final class YearEdgesTest extends Checks {
         due("gap 0, n 0", staff(60, 60).even(0), 0);
         due("gap 1, n 0", staff(61, 60).even(0), 1);
         due("gap -1, n 0", staff(60, 61).even(0), 1);
+        PayUntold one = staff(61, 60);
+        one.worker(9, 60, 60, 1);
+        due("gap 1 to two of lot 1, n 0", one.even(0), 2);
+        due("gap 1 to two of lot 1, n 1", one.even(1), 0);
+        PayUntold two = staff(60, 61);
+        two.worker(9, 60, 60, 0);
+        due("gap -1 of two of lot 0, n 0", two.even(0), 2);
+        due("gap -1 of two of lot 0, n 1", two.even(1), 0);
+        PayUntold more = staff(60, 61);
+        more.worker(9, 61, 61, 1);
+        due("gap -1 to two of lot 1, n 0", more.even(0), 1);
     }
 
     private static void evenOfALotThatIsLess() {
