@@ -67,7 +67,9 @@ public final class HouseEdgesTest extends Checks {
         due("a text of 100", whole.length(), 100);
         house(whole, 0);
         PayUntold one = staff(5);
-        build(one, whole);
+        write(one, whole);
+        due("sign 101", one.feed('1'), PayUntold.FULL);
+        due("the text is as it was", one.house(), 0);
         due("all of it is read", one.of(0, 10), 91);
     }
 
