@@ -34,6 +34,7 @@ public final class PromisesTest extends Checks {
         as();
         imageAndUndo();
         count();
+        exampleOfReadme();
         end();
     }
 
@@ -937,5 +938,19 @@ public final class PromisesTest extends Checks {
         due("count(5)", x.count(5), 2);
         due("count(6)", x.count(6), PayUntold.NONE);
         due("count(-1)", x.count(-1), PayUntold.NONE);
+    }
+
+    private static void exampleOfReadme() {
+        by("README.md, Use");
+        PayUntold office = new PayUntold();
+        due("house()", build(office, "leave 10;offer 40 l=1&!u<20;ask 3 p<15"), 0);
+        due("worker(4, 120, 150, 0)", office.worker(4, 120, 150, 0), 0);
+        due("worker(6, 150, 150, 1)", office.worker(6, 150, 150, 1), 1);
+        due("knowing(0, 2, 0)", office.knowing(0, 2, 0), 0);
+        due("of(0, 7)", office.of(0, 7), 135);
+        due("of(0, 11)", office.of(0, 11), 2);
+        due("years(1, 2, 0)", office.years(1, 2, 0), 300);
+        due("year()", office.year(), 1);
+        due("of(0, 1)", office.of(0, 1), 150);
     }
 }
